@@ -53,14 +53,9 @@ public final class StuckDoor {
     }
 
     public int lay(int r, int i, int v) {
-        if (!ints.isNumber(r)) {
-            return BAD;
-        }
-        if (!ints.isThere(r)) {
-            return refuse(NOTHING);
-        }
-        if (!ints.hasPlace(r, i)) {
-            return refuse(BEYOND);
+        int refusal = refusalOfPlace(ints, r, i);
+        if (refusal != 0) {
+            return refusal;
         }
         askedLast = ints.places[r][i];
         ints.places[r][i] = v;
@@ -68,25 +63,18 @@ public final class StuckDoor {
     }
 
     public int at(int r, int i) {
-        if (!ints.isNumber(r)) {
-            return BAD;
-        }
-        if (!ints.isThere(r)) {
-            return refuse(NOTHING);
-        }
-        if (!ints.hasPlace(r, i)) {
-            return refuse(BEYOND);
+        int refusal = refusalOfPlace(ints, r, i);
+        if (refusal != 0) {
+            return refusal;
         }
         askedLast = ints.places[r][i];
         return 1;
     }
 
     public int tear(int r) {
-        if (!ints.isNumber(r)) {
-            return BAD;
-        }
-        if (!ints.isThere(r)) {
-            return refuse(NOTHING);
+        int refusal = refusalOfRow(ints, r);
+        if (refusal != 0) {
+            return refusal;
         }
         ints.sizes[r] = MISSING;
         return 1;
@@ -110,11 +98,9 @@ public final class StuckDoor {
     }
 
     public int mean(int r) {
-        if (!ints.isNumber(r)) {
-            return BAD;
-        }
-        if (!ints.isThere(r)) {
-            return refuse(NOTHING);
+        int refusal = refusalOfRow(ints, r);
+        if (refusal != 0) {
+            return refusal;
         }
         int n = ints.sizes[r];
         if (n == 0) {
@@ -140,14 +126,9 @@ public final class StuckDoor {
     }
 
     public int put(int t, int i, int v) {
-        if (!texts.isNumber(t)) {
-            return BAD;
-        }
-        if (!texts.isThere(t)) {
-            return refuse(NOTHING);
-        }
-        if (!texts.hasPlace(t, i)) {
-            return refuse(BEYOND);
+        int refusal = refusalOfPlace(texts, t, i);
+        if (refusal != 0) {
+            return refusal;
         }
         int was = texts.places[t][i];
         texts.places[t][i] = (byte) v;
@@ -155,21 +136,17 @@ public final class StuckDoor {
     }
 
     public int fault(int t) {
-        if (!texts.isNumber(t)) {
-            return BAD;
-        }
-        if (!texts.isThere(t)) {
-            return refuse(NOTHING);
+        int refusal = refusalOfRow(texts, t);
+        if (refusal != 0) {
+            return refusal;
         }
         return reader.faultOf(texts.places[t], texts.sizes[t]);
     }
 
     public int family(int t) {
-        if (!texts.isNumber(t)) {
-            return BAD;
-        }
-        if (!texts.isThere(t)) {
-            return refuse(NOTHING);
+        int refusal = refusalOfRow(texts, t);
+        if (refusal != 0) {
+            return refusal;
         }
         if (reader.faultOf(texts.places[t], texts.sizes[t]) != NONE) {
             return STATE;
@@ -263,11 +240,9 @@ public final class StuckDoor {
     }
 
     public int on(int k) {
-        if (!kept.isNumber(k)) {
-            return BAD;
-        }
-        if (!kept.isThere(k)) {
-            return refuse(NOTHING);
+        int refusal = refusalOfRow(kept, k);
+        if (refusal != 0) {
+            return refusal;
         }
         // family() lets kept ones go, so PEOPLE and SAYINGS are the same: its DEEDS alone tell all
         System.arraycopy(kept.places[k], 0, family.deed, 0, kept.sizes[k]);
@@ -400,9 +375,6 @@ public final class StuckDoor {
     // ---- 6 what it is
 
     public int never(int r) {
-        if (!ints.isNumber(r)) {
-            return BAD;
-        }
         int refusal = refusalOfNamed(r);
         return refusal != 0 ? refusal : ALL_TOPICS & ~topicsOfNamed(r);
     }
@@ -432,10 +404,11 @@ public final class StuckDoor {
         return best;
     }
 
-    /** What stands against a ROW (whose number is one) as a ROW of SAYINGS; 0: nothing. */
+    /** What stands against a ROW as a ROW of SAYINGS; 0: nothing. */
     private int refusalOfNamed(int r) {
-        if (!ints.isThere(r)) {
-            return refuse(NOTHING);
+        int refusal = refusalOfRow(ints, r);
+        if (refusal != 0) {
+            return refusal;
         }
         if (ints.sizes[r] > MOST_NAMED) {
             return refuse(SIZE);
@@ -614,10 +587,27 @@ public final class StuckDoor {
         return texts.mixInto(ints.mixInto(h));
     }
 
+    /** A FINDING (1 .. 5) is answered. */
     private int refuse(int f) {
         latest = f;
         found[f]++;
         return FINDING;
+    }
+
+    /** What stands against a row by its number; 0: nothing. */
+    private int refusalOfRow(Rows rows, int r) {
+        if (!rows.isNumber(r)) {
+            return BAD;
+        }
+        return rows.isThere(r) ? 0 : refuse(NOTHING);
+    }
+
+    private int refusalOfPlace(Rows rows, int r, int i) {
+        int refusal = refusalOfRow(rows, r);
+        if (refusal != 0) {
+            return refusal;
+        }
+        return rows.hasPlace(r, i) ? 0 : refuse(BEYOND);
     }
 
     /** Tells a share of a whole (above 0) by upper(), lower(), in lowest terms. */

@@ -189,6 +189,9 @@ public final class PromisesTest {
     finds("mean of none", d, d.mean(0), NOUGHT);
     fill(d, 0, 1, 2, 5);
     is("mean", asks(d, d.mean(0)), 2);
+    d.row(0, 40);
+    d.lay(0, 39, 80);
+    is("mean of forty", asks(d, d.mean(0)), 2);
     fill(d, 0, -1, -2);
     is("mean is cut", asks(d, d.mean(0)), -1);
     fill(d, 0, Integer.MAX_VALUE, Integer.MAX_VALUE, Integer.MAX_VALUE);
@@ -269,6 +272,15 @@ public final class PromisesTest {
     is("room at end", faultOf("f1s11d0"), 7);
     is("room again", faultOf("f1s11d03d04 d03"), 14);
     is("capital", faultOf("F1s11"), 0);
+    is("signs beside the figures", faultOf("f:s11"), 1);
+    is("signs beside the figures", faultOf("f/s11"), 1);
+    is("signs beside the figures", faultOf("f1:s11"), 2);
+    is("signs beside the figures", faultOf("f1s:1"), 3);
+    is("signs beside the figures", faultOf("f1s/1"), 3);
+    is("signs beside the figures", faultOf("f1s1/"), 4);
+    is("signs beside the figures", faultOf("f1s11d/1"), 6);
+    is("signs beside the figures", faultOf("f1s11d0:"), 7);
+    is("signs beside the figures", faultOf("f1s11d0/"), 7);
     is("all rooms", faultOf("f1s11d00d01d02d03d04d05d06d07d08d09d10d11"), NONE);
     write(d, 0, "f1s11");
     d.put(0, 4, -79);
@@ -285,11 +297,11 @@ public final class PromisesTest {
     write(d, 1, ALL);
     is("family", d.family(1), 6);
     d.say(0, 0);
-    d.keep(1);
+    for (int k = 0; k < 3; k++) d.keep(k);
     write(d, 0, "f1");
     is("family of a FAULT", d.family(0), STATE);
     is("nothing is changed", d.count(3), 1);
-    is("kept stays", d.count(10), 1);
+    is("kept stays", d.count(10), 3);
     write(d, 0, "f32j57d11");
     is("family anew", d.family(0), 1);
     int[] due = {1, 2, 0, 0, 0, 0, NONE, 1, 0, 2, 0};
@@ -298,7 +310,7 @@ public final class PromisesTest {
     is("anew bears(2)", d.bears(2), BAD);
     d.put(0, 1, '9');
     is("the FAMILY is not its TEXT", d.bears(0), 3);
-    finds("kept are gone", d, d.on(1), NOTHING);
+    for (int k = 0; k < 3; k++) finds("kept are gone", d, d.on(k), NOTHING);
   }
 
   private static void saying() {
@@ -477,6 +489,14 @@ public final class PromisesTest {
     is("OVER again", d.count(6), 2);
     is("STRAIN again", d.count(4), 7);
     is("kept stays", d.on(1), 2);
+    d.undo(0);
+    d.day();
+    d.say(0, 5);
+    d.day();
+    is("on from other DEEDS", d.on(1), 2);
+    is("STRAIN", d.count(4), 1);
+    is("TOPICS", d.count(5), 2);
+    is("said", asks(d, d.saying(5, 4)), 0);
   }
 
   private static void can() {
@@ -626,6 +646,7 @@ public final class PromisesTest {
     is("least by none", d.least(0, 0), NONE);
     is("least by none", d.least(0, 1), NONE);
     is("least", d.least(0, 2), 5);
+    is("least by none behind another one", d.least(0, 1), NONE);
     is("least", d.least(1, 3), 4);
     is("least", d.least(0, 5), 2);
     is("aside", d.count(4), 0);
@@ -652,6 +673,8 @@ public final class PromisesTest {
       is("rows", d.rows(0, n[i]), 1);
       told("rows", d, topics[i], due[i], 1);
     }
+    is("rows behind others", d.rows(0, 0), 1);
+    told("rows behind others", d, 0, 1, 1);
     StuckDoor s = familyOf("f20s12s31");
     is("rows", s.rows(0, 1), 1);
     told("rows", s, 2, 2, 1);
@@ -810,8 +833,10 @@ public final class PromisesTest {
     is("nobody", familyOf("f99s11s22").duel(0, 1), NONE);
     is("must", familyOf("f09s11").duel(0, 1), 0);
     is("the other one", familyOf("f90s11s11").duel(0, 1), 1);
-    // s9 at once drives the other one over, s1 lets nobody be so
-    is("the other one rather than nobody", familyOf("f99s10s90").duel(0, 1), 1);
+    // the WILL ahead of what settles all leaves 4 to the other one, behind it 1
+    is("the other one rather than nobody", familyOf("f93s17w00").duel(0, 1), 1);
+    // only by what settles all at first does the WILL come to nothing, else the last one of three is above 4
+    is("nobody rather than oneself", familyOf("f49w00s10s17").duel(0, 1), NONE);
     d.say(2, 4);
     is("duel, one is OVER", d.duel(0, 1), STATE);
     is("BAD ahead", d.duel(0, 0), BAD);
@@ -825,6 +850,9 @@ public final class PromisesTest {
     is("opens", d.opens(0, 1), 0);
     is("opens", d.opens(1, 0), 0);
     is("aside", d.count(4), 0);
+    is("opens by the WILL", familyOf("f93s17w00").opens(0, 1), 1);
+    is("opens by the WILL", familyOf("f93w00s17").opens(0, 1), 0);
+    is("opens ahead of the WILL", familyOf("f49w00s10s17").opens(0, 1), 2);
     StuckDoor o = familyOf("f20s90s10s10");
     is("one's own end is last", o.duel(0, 1), 1);
     is("opens by another one", o.opens(0, 1), 1);
