@@ -458,6 +458,7 @@ public final class DeedsEdgesTest {
       + "TOPICS (bits) that can be settled by one of these by asked(): 1.", () -> {
         StuckDoor most = Edges.of("f9s00s00s00s00s00s07");
         for (int n = 0, due = 1; n <= 5; n++, due *= 7) rows("all of " + n, most, 0, n, due, n == 0 ? 0 : 7);
+        rows("none, behind others", most, 0, 0, 1, 0);
         StuckDoor least = Edges.of("f0s17");
         for (int n = 0; n <= 5; n++) rows("silent ones alone", least, 0, n, 1, 0);
         StuckDoor edge = Edges.of("f3s21s32s44");

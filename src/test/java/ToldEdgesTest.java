@@ -270,6 +270,9 @@ public final class ToldEdgesTest {
         duels("f9099s10", 1, 3, 0, 0);
         // each SAYING once: of one alone the first says it, and there is no second
         duels("f50s50", 0, 1, NONE, 0);
+        // neither may say again what was said, by whomever: what is left must be said
+        duels("f80s00s90", 0, 1, 1, 0);
+        duels("f80s00s00s90", 0, 1, 0, 0);
         StuckDoor said = Edges.of("f54s20");
         said.say(0, 0);
         Edges.is("what was truly said can be said in this", said.duel(0, 1), NONE);
@@ -322,6 +325,8 @@ public final class ToldEdgesTest {
       // the last one alone is good
       duels("f10s90s90s90s90s90s10", 0, 1, 1, 5);
       duels("f93w00s17", 0, 1, 1, 0);
+      // nobody rather than oneself
+      duels("f29w00s17", 0, 1, NONE, 1);
       Edges.tells("aside", Edges::full, Edges.full().opens(0, 1), d -> d.opens(0, 1));
     });
     Edges.promise(35, "BAD; STATE.", () -> {
@@ -357,6 +362,12 @@ public final class ToldEdgesTest {
       Edges.shares("though one is OVER", over, over.mid(7, 0), 0, 1);
       Edges.shares("though one is OVER", over, over.mid(6, 0), 1, 1);
       Edges.is("asked() stays", over.asked(), 1421);
+      StuckDoor far = Edges.of("f9p90s90");
+      far.say(0, 1);
+      far.say(0, 0);
+      Edges.shares("of 27, one DAY", far, far.mid(1, 6), 53, 2);
+      Edges.shares("of 27, twelve DAYS", far, far.mid(12, 0), 15, 1);
+      Edges.shares("of 27, twelve DAYS, half", far, far.mid(12, 6), 21, 1);
       StuckDoor full = Edges.full();
       long before = full.digest();
       Edges.shares("DAYS that can't be DEEDS any more", full, full.mid(12, 1), 0, 1);
