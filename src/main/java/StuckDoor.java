@@ -702,7 +702,7 @@ public final class StuckDoor {
             people = 0;
             sayings = 0;
             stuckRooms = 0;
-            goBackTo(0);
+            startAnew();
         }
 
         void become(Family draft) {
@@ -713,7 +713,16 @@ public final class StuckDoor {
             System.arraycopy(draft.kind, 0, kind, 0, MOST_SAYINGS);
             System.arraycopy(draft.told, 0, told, 0, MOST_SAYINGS);
             System.arraycopy(draft.topics, 0, topics, 0, MOST_SAYINGS);
-            goBackTo(0);
+            startAnew();
+        }
+
+        /** Things stand as without any DEEDS. */
+        private void startAnew() {
+            strain = 0;
+            settled = 0;
+            whoIsOver = NONE;
+            Arrays.fill(said, 0);
+            deeds = 0;
         }
 
         boolean isEmpty() {
@@ -874,13 +883,10 @@ public final class StuckDoor {
 
         /** Things stand as the first n DEEDS alone make them. */
         void goBackTo(int n) {
-            strain = 0;
-            settled = 0;
-            whoIsOver = NONE;
-            Arrays.fill(said, 0);
-            deeds = n;
+            startAnew();
             for (int i = 0; i < n && i < MOST_DEEDS; i++) {
                 enact(deed[i]);
+                deeds++;
             }
         }
 

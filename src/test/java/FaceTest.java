@@ -1,25 +1,18 @@
 import java.lang.reflect.Field;
 import java.lang.reflect.Method;
 import java.lang.reflect.Modifier;
-import java.nio.charset.StandardCharsets;
 import java.nio.file.Files;
 import java.nio.file.Path;
-import java.util.ArrayList;
 import java.util.List;
 import java.util.Set;
 import java.util.TreeSet;
-import java.util.regex.Matcher;
-import java.util.regex.Pattern;
 
-/** The face of the document and those rules of LANGUAGE.md that can be seen by a plain look. */
-public final class RulesTest {
+/** The face of the document (rule 1 of LANGUAGE.md); LanguageTest has the other rules. */
+public final class FaceTest {
   private static final String FACE = "row/2 lay/3 at/2 tear/1 copy/5 mean/1 text/2 put/3 fault/1 family/1 saying/2 mark/2 "
     + "bears/1 say/2 day/0 undo/1 keep/1 on/1 can/1 over/1 talk/1 waits/2 settle/2 least/2 rows/2 stuck/0 way/2 cuts/2 "
     + "round/2 never/1 next/1 kinds/4 duel/2 opens/2 mid/2 odds/4 lots/2 asked/0 count/1 finding/0 findings/1 "
     + "upper/0L lower/0L digest/0L";
-  private static final String[] BANNED = {"\\bthrow\\b", "\\btry\\b", "\\bcatch\\b", "\\bsynchronized\\b", "\\bassert\\b", "->",
-    "::", "Exact\\b", "\\bSystem\\.(?!arraycopy)", "\\bThread\\b", "\\bRandom\\b", "\\bObject\\b", "\\bstatic \\{",
-    "^package\\b", "\\bimport (?!java\\.util\\.Arrays;)"};
 
   private static int wrong = 0;
 
@@ -34,8 +27,8 @@ public final class RulesTest {
     face();
     constants();
     nested();
-    source();
-    System.out.println(wrong == 0 ? "the rules are kept" : wrong + " rules are not kept");
+    words();
+    System.out.println(wrong == 0 ? "the face is as told" : wrong + " wrong");
     if (wrong != 0) System.exit(1);
   }
 
@@ -96,29 +89,18 @@ public final class RulesTest {
     }
   }
 
-  private static void source() throws Exception {
-    Path file = Path.of("src/main/java/StuckDoor.java");
-    String all = Files.readString(file, StandardCharsets.ISO_8859_1);
-    for (int i = 0; i < all.length(); i++) that("plain signs alone", all.charAt(i) == '\n' || all.charAt(i) >= 32 && all.charAt(i) < 127);
-    String code = all.replaceAll("(?s)/\\*.*?\\*/", "").replaceAll("//.*", "");
-    for (String banned : BANNED) {
-      Matcher m = Pattern.compile(banned, Pattern.MULTILINE).matcher(code);
-      that("nothing like " + banned, !m.find());
+  /** Each line of the document's face, the names of parameters too, stands in the source. */
+  private static void words() throws Exception {
+    List<String> source = Files.readAllLines(Path.of("src/main/java/StuckDoor.java"));
+    boolean isFace = false;
+    int seen = 0;
+    for (String line : Files.readAllLines(Path.of("../shared/DOC.md"))) {
+      if (line.startsWith("```")) isFace = line.equals("```java");
+      if (!isFace || !line.contains("public")) continue;
+      String due = line.matches(".*\\);") ? line.substring(0, line.length() - 1) + " {" : line;
+      that("the source has '" + due + "'", source.contains(due));
+      seen++;
     }
-    methodsAreShort(all.split("\n"));
-  }
-
-  private static void methodsAreShort(String[] lines) {
-    List<Integer> starts = new ArrayList<>();
-    for (int i = 0; i < lines.length; i++) {
-      if (lines[i].matches(" {4}( {4})?[^ /*}].*\\) \\{")) starts.add(i);
-      if (lines[i].matches(" {4}( {4})?\\}") && !starts.isEmpty()) {
-        int start = starts.get(starts.size() - 1);
-        if (lines[start].indexOf(lines[start].trim()) == lines[i].indexOf('}')) {
-          that(lines[start].trim() + " has sixty lines at most", i - start <= 60);
-          starts.remove(starts.size() - 1);
-        }
-      }
-    }
+    that("the document has a face", seen == 2 + 1 + FACE.split(" ").length);
   }
 }
