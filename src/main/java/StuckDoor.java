@@ -698,11 +698,11 @@ public final class StuckDoor {
         int deeds = 0;
         final int[] deed = new int[MOST_DEEDS];
 
+        /** A draft tells nothing any more; it never has DEEDS. */
         void clear() {
             people = 0;
             sayings = 0;
             stuckRooms = 0;
-            startAnew();
         }
 
         void become(Family draft) {
